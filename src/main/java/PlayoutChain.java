@@ -102,7 +102,6 @@ public final class PlayoutChain {
     public int insert(int position, int clip, char mode, int start)
             throws IndexOutOfBoundsException, UnsupportedOperationException, IllegalArgumentException,
             IllegalStateException {
-        checkClipNumber(clip);
         if (position < 0 || position > list.size()) {
             throw new IndexOutOfBoundsException("no such position");
         }
@@ -290,11 +289,11 @@ public final class PlayoutChain {
 
     public int fillByTrying(int gap, int level) throws IllegalArgumentException, NoSuchElementException {
         checkGap(gap, level);
-        int choice = filler.chooseByTrying(gap, level);
-        if (choice == NO_CHOICE) {
+        int pieces = filler.fewestByTrying(gap);
+        if (pieces < 1) {
             throw new NoSuchElementException("no pieces fill the gap");
         }
-        return Integer.bitCount(choice);
+        return pieces;
     }
 
     public int fillAt(int gap, int level, int index) throws IllegalArgumentException, NoSuchElementException {
@@ -958,17 +957,16 @@ public final class PlayoutChain {
                     Arrays.fill(fewest[i], (byte) UNREACHED);
                     fewest[i][0] = 0;
                 } else {
-                    addPieceToSums(i);
+                    addPieceToSums(i, lengthOf(i));
                 }
             }
             addedUp = true;
         }
 
-        private void addPieceToSums(int index) {
-            if (index < 0 || index >= MOST_PIECES) {
+        private void addPieceToSums(int index, int length) {
+            if (index < 0 || index >= MOST_PIECES || length < 0) {
                 return;
             }
-            int length = lengthOf(index);
             for (int sum = 0; sum <= DAY_SECONDS; sum++) {
                 byte few = fewest[index + 1][sum];
                 if (sum >= length && fewest[index + 1][sum - length] + 1 < few) {
@@ -1032,36 +1030,17 @@ public final class PlayoutChain {
             return seconds;
         }
 
-        /** Tries the choices in their order, so that the first of several that are as good stays. */
-        int chooseByTrying(int gap, int level) {
-            int best = NO_CHOICE;
-            for (int choice = (1 << MOST_PIECES) - 1; choice >= 1; choice--) {
-                if (isOfPieces(choice) && secondsIn(choice) == gap && isBetter(choice, best, gap, level)) {
-                    best = choice;
+        /** Returns 0 if no pieces fill the gap. */
+        int fewestByTrying(int gap) {
+            int few = 0;
+            for (int i = 1; i < 1 << count; i++) {
+                int choice = i << (MOST_PIECES - count);
+                int pieces = Integer.bitCount(choice);
+                if (secondsIn(choice) == gap && (few == 0 || pieces < few)) {
+                    few = pieces;
                 }
             }
-            return best;
-        }
-
-        private boolean isOfPieces(int choice) {
-            for (int i = count; i < MOST_PIECES; i++) {
-                if (isIn(choice, i)) {
-                    return false;
-                }
-            }
-            return true;
-        }
-
-        private boolean isBetter(int choice, int best, int gap, int level) {
-            if (best == NO_CHOICE) {
-                return true;
-            }
-            int pieces = Integer.bitCount(choice);
-            int piecesOfBest = Integer.bitCount(best);
-            if (pieces != piecesOfBest) {
-                return pieces < piecesOfBest;
-            }
-            return deviationOf(choice, gap, level) < deviationOf(best, gap, level);
+            return few;
         }
     }
 }

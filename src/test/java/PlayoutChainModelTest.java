@@ -31,8 +31,13 @@ public final class PlayoutChainModelTest {
             return String.valueOf(call.get());
         } catch (IllegalArgumentException | IllegalStateException | IndexOutOfBoundsException
                 | UnsupportedOperationException | NoSuchElementException e) {
-            return "throws." + e.getClass().getName();
+            return "throws." + e.getClass().getName() + (thrownByTheLibrary(e) ? " by the library" : "");
         }
+    }
+
+    private static boolean thrownByTheLibrary(RuntimeException e) {
+        StackTraceElement[] frames = e.getStackTrace();
+        return frames.length > 0 && !frames[0].getClassName().startsWith("PlayoutChain");
     }
 
     private static final class Run {

@@ -45,6 +45,8 @@ public final class PlayoutChainPromisesTest {
         fillOfToday();
         fillWrongInputs();
         levelAheadOfGap();
+        askedFirst();
+        newLayouts();
         air();
         lastDay();
         log();
@@ -79,7 +81,7 @@ public final class PlayoutChainPromisesTest {
         try {
             got = "answered " + call.get();
         } catch (RuntimeException e) {
-            got = e.getClass().getName();
+            got = e.getClass().getName() + (thrownByTheClass(e) ? "" : " by the machine or the library");
         }
         if (!got.equals(due.getName())) {
             failed++;
@@ -90,6 +92,13 @@ public final class PlayoutChainPromisesTest {
         } else {
             passed++;
         }
+    }
+
+    /** The class is to test what it uses and to throw itself, so an exception's first frame lies in it. */
+    private static boolean thrownByTheClass(RuntimeException e) {
+        StackTraceElement[] frames = e.getStackTrace();
+        return frames.length > 0 && frames[0].getClassName().startsWith("PlayoutChain")
+                && !frames[0].getClassName().endsWith("Test");
     }
 
     private static String told(Supplier<Object> call) {
@@ -868,6 +877,22 @@ public final class PlayoutChainPromisesTest {
         refuses(NONE, () -> x.fillByTrying(10, -20));
         x.addPiece(10, -50, 3, 3);
         filledBy(10, -20, 4);
+        begin("promise 27, a piece that has had its days");
+        x.addPiece(10, -20, 0, 9);
+        x.addPiece(20, -20, 0, 9);
+        x.addPiece(30, -20, 0, 0);
+        filledBy(30, -20, 2);
+        x.air();
+        filledBy(30, -20, 0, 1);
+        begin("promise 27, a piece whose days come");
+        x.addPiece(10, -20, 0, 9);
+        x.addPiece(20, -20, 0, 9);
+        x.addPiece(30, -20, 1, 1);
+        filledBy(30, -20, 0, 1);
+        x.air();
+        filledBy(30, -20, 2);
+        x.air();
+        filledBy(30, -20, 0, 1);
     }
 
     private static void fillWrongInputs() {
@@ -924,6 +949,95 @@ public final class PlayoutChainPromisesTest {
         piece(10, -50);
         append(0, 'p', 2690);
         is(x.spanClip(x.spans() - 1), 2);
+        begin("fill, no event ahead of the gap");
+        piece(10, -22);
+        piece(10, -24);
+        piece(20, -24);
+        piece(20, -22);
+        x.addProgramme(100, -50, 99, 0, 999);
+        append(4, 'p', 10);
+        is(x.spanClip(0), 0);
+        x.remove(0);
+        append(4, 'p', 20);
+        is(x.spanClip(0), 2);
+    }
+
+    private static void beginWithEvents() {
+        begin("asked first after a change");
+        programme(100);
+        piece(20, -10);
+        append(0, 'p', 20);
+        append(0, 'j', 60);
+        x.attach(1, 'e', 10, 5);
+    }
+
+    /** A question is answered from the list as it is, whatever was asked before. */
+    private static void askedFirst() {
+        beginWithEvents();
+        is(x.fate(1), 'j');
+        beginWithEvents();
+        is(x.startOf(1), 120);
+        beginWithEvents();
+        is(x.endOf(1), 160);
+        beginWithEvents();
+        is(x.spans(), 4);
+        beginWithEvents();
+        is(x.spanClip(2), 0);
+        beginWithEvents();
+        is(x.spanStart(2), 120);
+        beginWithEvents();
+        is(x.spanLength(2), 40);
+        beginWithEvents();
+        is(x.airAt(150), 0);
+        beginWithEvents();
+        is(x.airBySeconds(150), 0);
+        beginWithEvents();
+        is(x.slate(), 3440);
+        beginWithEvents();
+        is(x.showing(150), 1);
+        beginWithEvents();
+        is(x.secondaryStart(1, 0), 150);
+        beginWithEvents();
+        is(x.meanLevel(), (-2800f - 200f) / 160f);
+        beginWithEvents();
+        is(x.meanLevelBits(), Float.floatToIntBits((-2800f - 200f) / 160f));
+        beginWithEvents();
+        is(x.air(), 4);
+        is(x.apart(), 0);
+        x.remove(1);
+        is(x.apart(), 40);
+    }
+
+    /** Nothing of an earlier layout stays, and every change makes a new one. */
+    private static void newLayouts() {
+        begin("new layouts");
+        x.addProgramme(100, -20, 9, 0, 0);
+        x.addProgramme(300, -20, 9, 0, 999);
+        append(0, 'p', 50);
+        append(0, 'j', 100);
+        x.attach(0, 's', 0, 10);
+        is(x.startOf(0), 50);
+        is(x.endOf(1), 200);
+        x.insert(0, 1, 'f', 0);
+        is(fatesOf(x), "aax");
+        refuses(NONE, () -> x.startOf(2));
+        x.remove(0);
+        is(fatesOf(x), "aj");
+        piece(50, -20);
+        is(x.spanClip(0), 2);
+        is(x.showing(55), 1);
+        x.air();
+        is(fatesOf(x), "rr");
+        refuses(NONE, () -> x.startOf(0));
+        refuses(NONE, () -> x.endOf(1));
+        refuses(NONE, () -> x.secondaryStart(0, 0));
+        is(x.showing(55), 0);
+        begin("new layouts, one second");
+        programme(1);
+        append(0, 'f', 0);
+        is(x.airBySeconds(0), 0);
+        is(x.airBySeconds(1), -1);
+        is(x.airAt(1), -1);
     }
 
     private static void air() {
@@ -1071,6 +1185,8 @@ public final class PlayoutChainPromisesTest {
         for (int i = 0; i < 8; i++) {
             piece(1 + i, -10 - i);
         }
+        filledBy(8, 0, 7);
+        filledBy(36, 0, 0, 1, 2, 3, 4, 5, 6, 7);
         programme(1);
         for (int i = 0; i < 12; i++) {
             append(8, 'p', 36 + 37 * i);
