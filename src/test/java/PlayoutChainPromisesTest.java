@@ -842,6 +842,13 @@ public final class PlayoutChainPromisesTest {
     }
 
     private static void fillInFloat() {
+        begin("promises 27 to 30, the shortest gap");
+        piece(1, -30);
+        piece(1, -10);
+        filledBy(1, -10, 1);
+        filledBy(1, -25, 0);
+        is(x.deviation(1, -25), 5f);
+        is(x.deviation(2, -25), 5f);
         begin("promise 30, in float");
         piece(7, -13);
         piece(3, -19);
