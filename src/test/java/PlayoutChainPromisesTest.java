@@ -1,21 +1,5 @@
-import java.util.NoSuchElementException;
-import java.util.function.Supplier;
-
 /** Each promise of the document by itself: ordinary inputs, edges and wrong inputs. */
-public final class PlayoutChainPromisesTest {
-    private static final Class<? extends RuntimeException> INDEX = IndexOutOfBoundsException.class;
-    private static final Class<? extends RuntimeException> ARGUMENT = IllegalArgumentException.class;
-    private static final Class<? extends RuntimeException> STATE = IllegalStateException.class;
-    private static final Class<? extends RuntimeException> UNSUPPORTED = UnsupportedOperationException.class;
-    private static final Class<? extends RuntimeException> NONE = NoSuchElementException.class;
-    private static final int MIN = Integer.MIN_VALUE;
-    private static final int MAX = Integer.MAX_VALUE;
-
-    private static int passed = 0;
-    private static int failed = 0;
-    private static String part = "";
-    private static PlayoutChain x;
-
+public final class PlayoutChainPromisesTest extends ChainChecks {
     public static void main(String[] args) {
         newObject();
         addProgramme();
@@ -53,123 +37,11 @@ public final class PlayoutChainPromisesTest {
         apart();
         aired();
         limits();
-        System.out.println("PlayoutChainPromisesTest: " + passed + " passed, " + failed + " failed");
-        if (failed != 0) {
-            System.exit(1);
-        }
-    }
-
-    private static void begin(String name) {
-        part = name;
-        x = new PlayoutChain();
-    }
-
-    private static void is(Object got, Object due) {
-        if (got.equals(due)) {
-            passed++;
-        } else {
-            failed++;
-            StackTraceElement at = new Throwable().getStackTrace()[1];
-            System.out.println(part + ", line " + at.getLineNumber() + ": answered " + got + ", due is " + due);
-        }
-    }
-
-    private static void refuses(Class<? extends RuntimeException> due, Supplier<Object> call) {
-        StackTraceElement at = new Throwable().getStackTrace()[1];
-        String before = everythingOf(x);
-        String got;
-        try {
-            got = "answered " + call.get();
-        } catch (RuntimeException e) {
-            got = e.getClass().getName() + (thrownByTheClass(e) ? "" : " by the machine or the library");
-        }
-        if (!got.equals(due.getName())) {
-            failed++;
-            System.out.println(part + ", line " + at.getLineNumber() + ": " + got + ", due is " + due.getName());
-        } else if (!everythingOf(x).equals(before)) {
-            failed++;
-            System.out.println(part + ", line " + at.getLineNumber() + ": the call that threw changed something");
-        } else {
-            passed++;
-        }
-    }
-
-    /** The class is to test what it uses and to throw itself, so an exception's first frame lies in it. */
-    private static boolean thrownByTheClass(RuntimeException e) {
-        StackTraceElement[] frames = e.getStackTrace();
-        return frames.length > 0 && frames[0].getClassName().startsWith("PlayoutChain")
-                && !frames[0].getClassName().endsWith("Test");
-    }
-
-    private static String told(Supplier<Object> call) {
-        try {
-            return call.get() + " ";
-        } catch (RuntimeException e) {
-            return e.getClass().getSimpleName() + " ";
-        }
-    }
-
-    /** All that can be asked of a chain, but for the overruns, which show in the layout. */
-    private static String everythingOf(PlayoutChain chain) {
-        StringBuilder all = new StringBuilder();
-        for (int i = 0; i < 13; i++) {
-            int n = i;
-            all.append(told(() -> chain.plays(n))).append(told(() -> chain.aired(n)));
-            all.append(told(() -> chain.programme(n))).append(told(() -> chain.fate(n)));
-            all.append(told(() -> chain.startOf(n))).append(told(() -> chain.endOf(n)));
-            for (int j = 0; j < 4; j++) {
-                int index = j;
-                all.append(told(() -> chain.secondaryStart(n, index)));
-            }
-        }
-        all.append(told(() -> chain.events())).append(told(() -> chain.spans()));
-        for (int i = 0; i < chain.spans(); i++) {
-            all.append(chain.spanClip(i)).append(' ').append(chain.spanStart(i)).append(' ');
-        }
-        for (int i = 0; i < chain.entries(); i++) {
-            all.append(chain.entryClip(i)).append(' ').append(chain.entryStart(i)).append(' ');
-        }
-        for (int i = 0; i < 3600; i += 37) {
-            all.append(chain.showing(i));
-        }
-        for (int gap = 10; gap <= 300; gap += 10) {
-            int g = gap;
-            all.append(told(() -> chain.fill(g, -20))).append(told(() -> chain.deviation(g, -20)));
-        }
-        return all.append(chain.today()).append(' ').append(told(() -> chain.apart())).toString();
-    }
-
-    private static String spansOf(PlayoutChain chain) {
-        StringBuilder all = new StringBuilder();
-        for (int i = 0; i < chain.spans(); i++) {
-            all.append(all.length() == 0 ? "" : " ").append(chain.spanClip(i)).append('@').append(chain.spanStart(i))
-                    .append('+').append(chain.spanLength(i));
-        }
-        return all.toString();
-    }
-
-    private static String fatesOf(PlayoutChain chain) {
-        StringBuilder all = new StringBuilder();
-        for (int i = 0; i < chain.events(); i++) {
-            all.append(chain.fate(i));
-        }
-        return all.toString();
-    }
-
-    private static int programme(int length) {
-        return x.addProgramme(length, -20, 99, 0, 999);
-    }
-
-    private static int piece(int length, int level) {
-        return x.addPiece(length, level, 0, 999);
-    }
-
-    private static int append(int clip, char mode, int start) {
-        return x.insert(x.events(), clip, mode, start);
+        end("PlayoutChainPromisesTest");
     }
 
     private static void newObject() {
-        begin("promise 1");
+        sentence("promise 1");
         is(x.events(), 0);
         is(x.today(), 0);
         is(x.entries(), 0);
@@ -188,7 +60,7 @@ public final class PlayoutChainPromisesTest {
     }
 
     private static void addProgramme() {
-        begin("promise 2");
+        sentence("promise 2");
         is(x.addProgramme(1, -60, 0, 0, 0), 0);
         is(x.addProgramme(900, 0, 99, 999, 999), 1);
         is(x.addPiece(10, 0, 0, 0), 2);
@@ -217,7 +89,7 @@ public final class PlayoutChainPromisesTest {
     }
 
     private static void addPiece() {
-        begin("promise 3");
+        sentence("promise 3");
         is(x.addPiece(1, -60, 0, 0), 0);
         is(x.addProgramme(1, -60, 0, 0, 0), 1);
         is(x.addPiece(900, 0, 0, 999), 2);
@@ -234,7 +106,7 @@ public final class PlayoutChainPromisesTest {
         refuses(STATE, () -> x.addPiece(10, -20, 0, 0));
         refuses(ARGUMENT, () -> x.addPiece(10, 1, 0, 0));
         is(programme(10), 9);
-        begin("promise 3, clips");
+        sentence("promise 3, clips");
         for (int i = 0; i < 12; i++) {
             programme(10);
         }
@@ -243,7 +115,7 @@ public final class PlayoutChainPromisesTest {
     }
 
     private static void plays() {
-        begin("promise 4");
+        sentence("promise 4");
         x.addProgramme(10, -20, 3, 0, 999);
         piece(10, -20);
         is(x.plays(0), 3);
@@ -255,7 +127,7 @@ public final class PlayoutChainPromisesTest {
     }
 
     private static void addPlays() {
-        begin("promise 5");
+        sentence("promise 5");
         x.addProgramme(10, -20, 0, 0, 999);
         piece(10, -20);
         append(0, 'f', 0);
@@ -275,7 +147,7 @@ public final class PlayoutChainPromisesTest {
     }
 
     private static void insert() {
-        begin("promise 6");
+        sentence("promise 6");
         programme(100);
         programme(200);
         piece(10, -20);
@@ -310,7 +182,7 @@ public final class PlayoutChainPromisesTest {
     }
 
     private static void remove() {
-        begin("promise 7");
+        sentence("promise 7");
         programme(100);
         programme(200);
         programme(300);
@@ -323,7 +195,7 @@ public final class PlayoutChainPromisesTest {
         refuses(INDEX, () -> x.remove(-1));
         is(x.remove(1), 2);
         is(x.showing(100), 0);
-        is(spansOf(x), "0@0+100 2@100+300 -1@400+3200");
+        is(onAir(), "0@0+100 2@100+300 -1@400+3200");
         refuses(INDEX, () -> x.secondaryStart(1, 0));
         is(x.remove(1), 1);
         is(x.remove(0), 0);
@@ -331,7 +203,7 @@ public final class PlayoutChainPromisesTest {
     }
 
     private static void move() {
-        begin("promise 8");
+        sentence("promise 8");
         programme(100);
         programme(200);
         programme(300);
@@ -341,11 +213,11 @@ public final class PlayoutChainPromisesTest {
         x.setOverrun(0, 7);
         x.attach(0, 's', 5, 10);
         is(x.move(0, 2), 2);
-        is(spansOf(x), "1@0+200 2@200+300 0@500+107 -1@607+2993");
+        is(onAir(), "1@0+200 2@200+300 0@500+107 -1@607+2993");
         is(x.secondaryStart(2, 0), 505);
         is(x.setOverrun(2, 0), 7);
         is(x.move(2, 1), 1);
-        is(spansOf(x), "1@0+200 0@200+100 2@300+300 -1@600+3000");
+        is(onAir(), "1@0+200 0@200+100 2@300+300 -1@600+3000");
         is(x.move(1, 1), 0);
         is(x.programme(1), 0);
         is(x.events(), 3);
@@ -358,7 +230,7 @@ public final class PlayoutChainPromisesTest {
     }
 
     private static void setOverrun() {
-        begin("promise 9");
+        sentence("promise 9");
         programme(100);
         append(0, 'f', 0);
         is(x.setOverrun(0, 900), 0);
@@ -375,7 +247,7 @@ public final class PlayoutChainPromisesTest {
     }
 
     private static void attach() {
-        begin("promise 10");
+        sentence("promise 10");
         programme(100);
         append(0, 'f', 0);
         append(0, 'f', 0);
@@ -397,7 +269,7 @@ public final class PlayoutChainPromisesTest {
     }
 
     private static void eventsAndProgramme() {
-        begin("promises 11 and 12");
+        sentence("promises 11 and 12");
         piece(10, -20);
         programme(100);
         programme(200);
@@ -414,7 +286,7 @@ public final class PlayoutChainPromisesTest {
     }
 
     private static void fate() {
-        begin("promise 13");
+        sentence("promise 13");
         programme(100);
         refuses(INDEX, () -> x.fate(0));
         append(0, 'f', 0);
@@ -422,7 +294,7 @@ public final class PlayoutChainPromisesTest {
         append(0, 'j', 120);
         append(0, 'j', 50);
         append(0, 'p', 200);
-        is(fatesOf(x), "cajxa");
+        is(fates(), "cajxa");
         is(x.startOf(0), 0);
         is(x.endOf(0), 60);
         is(x.startOf(2), 160);
@@ -431,14 +303,14 @@ public final class PlayoutChainPromisesTest {
         is(x.endOf(4), 320);
         refuses(INDEX, () -> x.fate(5));
         refuses(INDEX, () -> x.fate(-1));
-        begin("promise 13, fixed starts at the time itself");
+        sentence("promise 13, fixed starts at the time itself");
         programme(100);
         append(0, 'c', 0);
         append(0, 'c', 100);
         append(0, 'j', 200);
         append(0, 'p', 300);
         append(0, 'j', 301);
-        is(fatesOf(x), "aaaaj");
+        is(fates(), "aaaaj");
         is(x.endOf(4), 401);
         append(0, 'j', 301);
         is(x.fate(5), 'x');
@@ -446,15 +318,15 @@ public final class PlayoutChainPromisesTest {
         is(x.fate(6), 'j');
         is(x.startOf(6), 401);
         is(x.endOf(6), 402);
-        begin("promise 13, joined and cut");
+        sentence("promise 13, joined and cut");
         programme(100);
         append(0, 'f', 0);
         append(0, 'j', 50);
         append(0, 'c', 120);
-        is(fatesOf(x), "aca");
+        is(fates(), "aca");
         append(0, 'c', 100);
-        is(fatesOf(x), "axxa");
-        begin("promise 13, joined with an overrun");
+        is(fates(), "axxa");
+        sentence("promise 13, joined with an overrun");
         programme(100);
         append(0, 'f', 0);
         append(0, 'j', 0);
@@ -463,23 +335,23 @@ public final class PlayoutChainPromisesTest {
         is(x.fate(1), 'j');
         is(x.startOf(1), 100);
         is(x.endOf(1), 101);
-        begin("promise 13, the end of the day");
+        sentence("promise 13, the end of the day");
         programme(100);
         append(0, 'p', 3500);
         append(0, 'f', 0);
-        is(fatesOf(x), "ax");
+        is(fates(), "ax");
         x.setOverrun(0, 1);
-        is(fatesOf(x), "cx");
+        is(fates(), "cx");
         is(x.endOf(0), 3600);
         append(0, 'c', 3599);
-        is(fatesOf(x), "cxc");
+        is(fates(), "cxc");
         is(x.endOf(0), 3599);
         append(0, 'c', 3500);
-        is(fatesOf(x), "xxxa");
+        is(fates(), "xxxa");
     }
 
     private static void barring() {
-        begin("promise 13, barred");
+        sentence("promise 13, barred");
         x.addProgramme(100, -20, 2, 0, 999);
         x.addProgramme(200, -20, 9, 1, 1);
         x.addProgramme(300, -20, 1, 0, 0);
@@ -489,22 +361,22 @@ public final class PlayoutChainPromisesTest {
         append(0, 'f', 0);
         append(2, 'f', 0);
         append(2, 'f', 0);
-        is(fatesOf(x), "xrarar");
-        is(spansOf(x), "0@0+100 2@100+300 -1@400+3200");
+        is(fates(), "xrarar");
+        is(onAir(), "0@0+100 2@100+300 -1@400+3200");
         x.air();
         is(x.plays(0), 0);
         is(x.plays(1), 9);
         is(x.plays(2), 0);
-        is(fatesOf(x), "rarrrr");
+        is(fates(), "rarrrr");
         x.air();
-        is(fatesOf(x), "rrrrrr");
+        is(fates(), "rrrrrr");
         is(x.plays(1), 8);
         is(x.addPlays(2, 5), 5);
         is(x.fate(4), 'r');
     }
 
     private static void startAndEnd() {
-        begin("promises 14 and 15");
+        sentence("promises 14 and 15");
         programme(100);
         x.addProgramme(100, -20, 0, 0, 999);
         append(0, 'p', 40);
@@ -526,7 +398,7 @@ public final class PlayoutChainPromisesTest {
     }
 
     private static void spans() {
-        begin("promises 16 to 19");
+        sentence("promises 16 to 19");
         programme(100);
         piece(30, -10);
         piece(20, -10);
@@ -535,9 +407,9 @@ public final class PlayoutChainPromisesTest {
         append(0, 'p', 260);
         append(0, 'j', 380);
         is(x.spans(), 9);
-        is(spansOf(x), "1@0+30 2@30+20 0@50+100 0@150+100 -1@250+10 0@260+100 2@360+20 0@380+100 -1@480+3120");
+        is(onAir(), "1@0+30 2@30+20 0@50+100 0@150+100 -1@250+10 0@260+100 2@360+20 0@380+100 -1@480+3120");
         refuses(INDEX, () -> x.spanClip(9));
-        begin("promises 16 to 19, wrong inputs");
+        sentence("promises 16 to 19, wrong inputs");
         programme(900);
         append(0, 'f', 0);
         append(0, 'f', 0);
@@ -558,31 +430,31 @@ public final class PlayoutChainPromisesTest {
     }
 
     private static void cutSpans() {
-        begin("promise 16, pieces and slate that are cut");
+        sentence("promise 16, pieces and slate that are cut");
         programme(100);
         piece(30, -10);
         piece(20, -10);
         append(0, 'p', 50);
         append(0, 'c', 35);
-        is(spansOf(x), "1@0+30 2@30+5 0@35+100 -1@135+3465");
-        is(fatesOf(x), "xa");
+        is(onAir(), "1@0+30 2@30+5 0@35+100 -1@135+3465");
+        is(fates(), "xa");
         x.remove(1);
         append(0, 'c', 30);
-        is(spansOf(x), "1@0+30 0@30+100 -1@130+3470");
+        is(onAir(), "1@0+30 0@30+100 -1@130+3470");
         x.remove(1);
         append(0, 'c', 0);
-        is(spansOf(x), "0@0+100 -1@100+3500");
-        begin("promise 16, slate that is cut");
+        is(onAir(), "0@0+100 -1@100+3500");
+        sentence("promise 16, slate that is cut");
         programme(100);
         append(0, 'p', 300);
         append(0, 'c', 200);
         append(0, 'c', 250);
-        is(spansOf(x), "-1@0+200 0@200+50 0@250+100 -1@350+3250");
-        is(fatesOf(x), "xca");
+        is(onAir(), "-1@0+200 0@200+50 0@250+100 -1@350+3250");
+        is(fates(), "xca");
     }
 
     private static void airAtSeconds() {
-        begin("promises 20 and 21");
+        sentence("promises 20 and 21");
         programme(100);
         piece(30, -10);
         append(0, 'p', 30);
@@ -603,7 +475,7 @@ public final class PlayoutChainPromisesTest {
     }
 
     private static void slate() {
-        begin("promise 22");
+        sentence("promise 22");
         is(x.slate(), 3600);
         programme(900);
         piece(30, -10);
@@ -619,12 +491,12 @@ public final class PlayoutChainPromisesTest {
         piece(870, -10);
         piece(900, -10);
         piece(900, -20);
-        is(spansOf(x), "1@0+30 0@30+900 0@930+900 2@1830+870 4@2700+900");
+        is(onAir(), "1@0+30 0@30+900 0@930+900 2@1830+870 4@2700+900");
         is(x.slate(), 0);
     }
 
     private static void showing() {
-        begin("promise 23");
+        sentence("promise 23");
         programme(100);
         programme(50);
         append(0, 'p', 200);
@@ -658,7 +530,7 @@ public final class PlayoutChainPromisesTest {
     }
 
     private static void secondaryStart() {
-        begin("promise 24");
+        sentence("promise 24");
         programme(100);
         append(0, 'f', 0);
         append(0, 'j', 60);
@@ -681,7 +553,7 @@ public final class PlayoutChainPromisesTest {
         is(x.secondaryStart(0, 0), 99);
         refuses(NONE, () -> x.secondaryStart(0, 1));
         refuses(NONE, () -> x.secondaryStart(0, 2));
-        begin("promise 24, ahead of the event");
+        sentence("promise 24, ahead of the event");
         programme(100);
         append(0, 'p', 500);
         x.attach(0, 'e', 150, 50);
@@ -697,7 +569,7 @@ public final class PlayoutChainPromisesTest {
     }
 
     private static void meanLevel() {
-        begin("promises 25 and 26");
+        sentence("promises 25 and 26");
         refuses(NONE, () -> x.meanLevel());
         refuses(NONE, () -> x.meanLevelBits());
         x.addProgramme(100, -10, 99, 0, 999);
@@ -734,7 +606,7 @@ public final class PlayoutChainPromisesTest {
         mean(-1330f / 110f);
         x.air();
         mean(-1330f / 110f);
-        begin("promise 26, the smallest mean");
+        sentence("promise 26, the smallest mean");
         x.addProgramme(900, 0, 99, 0, 999);
         x.addProgramme(1, -1, 99, 0, 999);
         for (int i = 0; i < 4; i++) {
@@ -749,24 +621,8 @@ public final class PlayoutChainPromisesTest {
         is(x.meanLevelBits(), Float.floatToIntBits(due));
     }
 
-    private static void clearList() {
-        while (x.events() > 0) {
-            x.remove(0);
-        }
-    }
-
-    private static void filledBy(int gap, int level, int... due) {
-        is(x.fill(gap, level), due.length);
-        is(x.fillByTrying(gap, level), due.length);
-        for (int i = 0; i < due.length; i++) {
-            is(x.fillAt(gap, level, i), due[i]);
-        }
-        refuses(NONE, () -> x.fillAt(gap, level, due.length));
-        refuses(NONE, () -> x.fillAt(gap, level, -1));
-    }
-
     private static void fillByFewest() {
-        begin("promises 27 to 29, by as few pieces as possible");
+        sentence("promises 27 to 29, by as few pieces as possible");
         programme(60);
         piece(10, -20);
         piece(20, -20);
@@ -780,18 +636,18 @@ public final class PlayoutChainPromisesTest {
         filledBy(120, -20, 1, 2, 3, 4);
         piece(120, 0);
         filledBy(120, -20, 5);
-        begin("promises 27 to 29, the longest gap");
+        sentence("promises 27 to 29, the longest gap");
         for (int i = 0; i < 5; i++) {
             piece(900, -20);
         }
         filledBy(3600, -20, 0, 1, 2, 3);
-        is(spansOf(x), "0@0+900 1@900+900 2@1800+900 3@2700+900");
+        is(onAir(), "0@0+900 1@900+900 2@1800+900 3@2700+900");
         refuses(NONE, () -> x.fill(3599, -20));
         refuses(NONE, () -> x.fillByTrying(3599, -20));
     }
 
     private static void fillByDeviation() {
-        begin("promises 27 to 30, by the least deviation");
+        sentence("promises 27 to 30, by the least deviation");
         piece(10, -40);
         piece(20, -10);
         piece(10, -20);
@@ -810,7 +666,7 @@ public final class PlayoutChainPromisesTest {
     }
 
     private static void fillByLowerNumber() {
-        begin("promise 29, by the lower number");
+        sentence("promise 29, by the lower number");
         piece(10, -30);
         programme(10);
         piece(10, -10);
@@ -826,14 +682,14 @@ public final class PlayoutChainPromisesTest {
         filledBy(50, -20, 0, 3, 4);
         filledBy(50, -10, 2, 3, 4);
         filledBy(60, -20, 0, 2, 3, 4);
-        begin("promise 29, where the pieces first differ");
+        sentence("promise 29, where the pieces first differ");
         piece(10, -20);
         piece(40, -20);
         piece(30, -20);
         piece(20, -20);
         filledBy(50, -20, 0, 1);
         filledBy(70, -20, 1, 2);
-        begin("promise 29, the first of two sets that share no piece");
+        sentence("promise 29, the first of two sets that share no piece");
         piece(20, -20);
         piece(10, -20);
         piece(40, -20);
@@ -842,14 +698,14 @@ public final class PlayoutChainPromisesTest {
     }
 
     private static void fillInFloat() {
-        begin("promises 27 to 30, the shortest gap");
+        sentence("promises 27 to 30, the shortest gap");
         piece(1, -30);
         piece(1, -10);
         filledBy(1, -10, 1);
         filledBy(1, -25, 0);
         is(x.deviation(1, -25), 5f);
         is(x.deviation(2, -25), 5f);
-        begin("promise 30, in float");
+        sentence("promise 30, in float");
         piece(7, -13);
         piece(3, -19);
         is(x.deviation(10, -15), Math.abs(-148f / 10f + 15f));
@@ -863,7 +719,7 @@ public final class PlayoutChainPromisesTest {
     }
 
     private static void fillOfToday() {
-        begin("promise 27, the pieces of today");
+        sentence("promise 27, the pieces of today");
         x.addPiece(10, -20, 0, 0);
         x.addPiece(10, -20, 0, 1);
         x.addPiece(10, -20, 1, 2);
@@ -884,14 +740,14 @@ public final class PlayoutChainPromisesTest {
         refuses(NONE, () -> x.fillByTrying(10, -20));
         x.addPiece(10, -50, 3, 3);
         filledBy(10, -20, 4);
-        begin("promise 27, a piece that has had its days");
+        sentence("promise 27, a piece that has had its days");
         x.addPiece(10, -20, 0, 9);
         x.addPiece(20, -20, 0, 9);
         x.addPiece(30, -20, 0, 0);
         filledBy(30, -20, 2);
         x.air();
         filledBy(30, -20, 0, 1);
-        begin("promise 27, a piece whose days come");
+        sentence("promise 27, a piece whose days come");
         x.addPiece(10, -20, 0, 9);
         x.addPiece(20, -20, 0, 9);
         x.addPiece(30, -20, 1, 1);
@@ -903,7 +759,7 @@ public final class PlayoutChainPromisesTest {
     }
 
     private static void fillWrongInputs() {
-        begin("promises 27 to 29, wrong inputs");
+        sentence("promises 27 to 29, wrong inputs");
         piece(10, -20);
         refuses(ARGUMENT, () -> x.fill(0, -20));
         refuses(ARGUMENT, () -> x.fill(3601, -20));
@@ -927,7 +783,7 @@ public final class PlayoutChainPromisesTest {
     }
 
     private static void levelAheadOfGap() {
-        begin("fill, the level ahead of the gap");
+        sentence("fill, the level ahead of the gap");
         piece(10, -10);
         piece(10, -23);
         piece(10, -50);
@@ -940,23 +796,23 @@ public final class PlayoutChainPromisesTest {
         append(6, 'f', 0);
         append(5, 'j', 120);
         append(4, 'p', 230);
-        is(fatesOf(x), "aarxa");
-        is(spansOf(x), "1@0+10 4@10+100 2@110+10 5@120+100 0@220+10 4@230+100 -1@330+3270");
+        is(fates(), "aarxa");
+        is(onAir(), "1@0+10 4@10+100 2@110+10 5@120+100 0@220+10 4@230+100 -1@330+3270");
         append(5, 'c', 220);
         append(5, 'p', 330);
-        is(spansOf(x), "1@0+10 4@10+100 2@110+10 5@120+100 5@220+100 0@320+10 5@330+100 -1@430+3170");
+        is(onAir(), "1@0+10 4@10+100 2@110+10 5@120+100 5@220+100 0@320+10 5@330+100 -1@430+3170");
         x.remove(5);
         x.remove(5);
         append(4, 'c', 120);
         append(5, 'p', 230);
-        is(spansOf(x), "1@0+10 4@10+100 2@110+10 4@120+100 2@220+10 5@230+100 -1@330+3270");
-        begin("fill, the gap that ends the day");
+        is(onAir(), "1@0+10 4@10+100 2@110+10 4@120+100 2@220+10 5@230+100 -1@330+3270");
+        sentence("fill, the gap that ends the day");
         x.addProgramme(900, -50, 99, 0, 999);
         piece(10, -10);
         piece(10, -50);
         append(0, 'p', 2690);
         is(x.spanClip(x.spans() - 1), 2);
-        begin("fill, no event ahead of the gap");
+        sentence("fill, no event ahead of the gap");
         piece(10, -22);
         piece(10, -24);
         piece(20, -24);
@@ -970,7 +826,7 @@ public final class PlayoutChainPromisesTest {
     }
 
     private static void beginWithEvents() {
-        begin("asked first after a change");
+        sentence("asked first after a change");
         programme(100);
         piece(20, -10);
         append(0, 'p', 20);
@@ -1017,7 +873,7 @@ public final class PlayoutChainPromisesTest {
 
     /** Nothing of an earlier layout stays, and every change makes a new one. */
     private static void newLayouts() {
-        begin("new layouts");
+        sentence("new layouts");
         x.addProgramme(100, -20, 9, 0, 0);
         x.addProgramme(300, -20, 9, 0, 999);
         append(0, 'p', 50);
@@ -1026,20 +882,20 @@ public final class PlayoutChainPromisesTest {
         is(x.startOf(0), 50);
         is(x.endOf(1), 200);
         x.insert(0, 1, 'f', 0);
-        is(fatesOf(x), "aax");
+        is(fates(), "aax");
         refuses(NONE, () -> x.startOf(2));
         x.remove(0);
-        is(fatesOf(x), "aj");
+        is(fates(), "aj");
         piece(50, -20);
         is(x.spanClip(0), 2);
         is(x.showing(55), 1);
         x.air();
-        is(fatesOf(x), "rr");
+        is(fates(), "rr");
         refuses(NONE, () -> x.startOf(0));
         refuses(NONE, () -> x.endOf(1));
         refuses(NONE, () -> x.secondaryStart(0, 0));
         is(x.showing(55), 0);
-        begin("new layouts, one second");
+        sentence("new layouts, one second");
         programme(1);
         append(0, 'f', 0);
         is(x.airBySeconds(0), 0);
@@ -1048,7 +904,7 @@ public final class PlayoutChainPromisesTest {
     }
 
     private static void air() {
-        begin("promise 31");
+        sentence("promise 31");
         x.addProgramme(100, -20, 5, 0, 1);
         x.addProgramme(200, -20, 5, 0, 999);
         append(0, 'f', 0);
@@ -1057,7 +913,7 @@ public final class PlayoutChainPromisesTest {
         append(0, 'c', 50);
         x.setOverrun(0, 20);
         x.setOverrun(3, 30);
-        is(fatesOf(x), "cxxa");
+        is(fates(), "cxxa");
         is(x.air(), 3);
         is(x.plays(0), 3);
         is(x.plays(1), 3);
@@ -1067,35 +923,39 @@ public final class PlayoutChainPromisesTest {
         is(x.air(), 3);
         is(x.plays(0), 1);
         is(x.plays(1), 1);
-        is(fatesOf(x), "rarr");
+        is(fates(), "rarr");
         is(x.air(), 3);
         is(x.plays(0), 1);
         is(x.plays(1), 0);
         is(x.events(), 4);
-        is(fatesOf(x), "rrrr");
+        is(fates(), "rrrr");
         is(x.air(), 1);
-        begin("promise 31, an empty list");
+        sentence("promise 31, an empty list");
         is(x.air(), 1);
         is(x.today(), 1);
     }
 
-    /** The last day lies behind the 512 calls of an object; the class is to refuse there all the same. */
+    /** The day 999 lies behind the 512 calls, where nothing is promised; the class refuses it all the same. */
     private static void lastDay() {
-        begin("promise 31, the last day");
-        x.addProgramme(100, -20, 5, 999, 999);
-        append(0, 'f', 0);
+        sentence("promise 31, the last day");
+        PlayoutChain chain = new PlayoutChain();
+        chain.addProgramme(100, -20, 5, 999, 999);
+        chain.insert(0, 0, 'f', 0);
         for (int i = 0; i < 999; i++) {
-            is(x.today(), i);
-            is(x.air(), 1);
+            is(chain.today(), i);
+            is(chain.air(), 1);
         }
-        is(x.today(), 999);
-        is(x.fate(0), 'a');
-        refuses(STATE, () -> x.air());
-        is(x.plays(0), 5);
+        is(chain.today(), 999);
+        is(chain.fate(0), 'a');
+        is(told(() -> chain.air()), "IllegalStateException");
+        is(chain.today(), 999);
+        is(chain.plays(0), 5);
+        is(chain.aired(0), 0L);
+        is(chain.entryClip(0), -1);
     }
 
     private static void log() {
-        begin("promises 32 to 35");
+        sentence("promises 32 to 35");
         programme(100);
         piece(30, -10);
         is(x.today(), 0);
@@ -1128,7 +988,7 @@ public final class PlayoutChainPromisesTest {
     }
 
     private static void apart() {
-        begin("promise 36");
+        sentence("promise 36");
         programme(100);
         programme(100);
         append(0, 'p', 100);
@@ -1147,7 +1007,7 @@ public final class PlayoutChainPromisesTest {
         is(x.apart(), 0);
         x.remove(0);
         is(x.apart(), 100);
-        begin("promise 36, spans of the same clip");
+        sentence("promise 36, spans of the same clip");
         programme(100);
         programme(200);
         append(0, 'f', 0);
@@ -1162,7 +1022,7 @@ public final class PlayoutChainPromisesTest {
     }
 
     private static void aired() {
-        begin("promise 37");
+        sentence("promise 37");
         programme(100);
         piece(30, -10);
         programme(900);
@@ -1188,7 +1048,7 @@ public final class PlayoutChainPromisesTest {
 
     /** The most that can be laid out: 12 events, and pieces in every gap. */
     private static void limits() {
-        begin("limits");
+        sentence("limits");
         for (int i = 0; i < 8; i++) {
             piece(1 + i, -10 - i);
         }
@@ -1204,7 +1064,7 @@ public final class PlayoutChainPromisesTest {
         is(x.entryStart(12 * 9), 12 * 37);
         is(x.slate(), 3600 - 12 * 37);
         is(x.apart(), 0);
-        begin("limits, equal choices");
+        sentence("limits, equal choices");
         for (int i = 0; i < 8; i++) {
             piece(900, -60 + i);
         }
