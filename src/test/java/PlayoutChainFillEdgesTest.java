@@ -228,6 +228,19 @@ public final class PlayoutChainFillEdgesTest extends ChainChecks {
         piece(20, -20);
         piece(20, -20);
         filledBy(41, -20, 0, 1, 2);
+        sentence("promise 29: the first of 70 choices, more of which there cannot be");
+        for (int i = 0; i < 8; i++) {
+            piece(900, -20);
+        }
+        filledBy(3600, -20, 0, 1, 2, 3);
+        sentence("promise 30: the last of 70 choices, more of which there cannot be");
+        for (int i = 0; i < 8; i++) {
+            piece(900, i < 4 ? -60 : 0);
+        }
+        filledBy(3600, 0, 4, 5, 6, 7);
+        filledBy(3600, -60, 0, 1, 2, 3);
+        is(x.deviation(3600, 0), 0f);
+        is(x.deviation(3600, -60), 0f);
         sentence("promise 29: the lower number first, although the others are higher");
         piece(10, -20);
         piece(20, -20);
@@ -276,8 +289,8 @@ public final class PlayoutChainFillEdgesTest extends ChainChecks {
     private static void levelAheadOfTheGap() {
         sentence("promise 16: the level is -23 if there is no event ahead, not -24");
         programme(100);
-        piece(10, -26);
         piece(10, -20);
+        piece(10, -26);
         append(0, 'p', 10);
         is(x.spanClip(0), 1);
         sentence("promise 16: the level is -23 if there is no event ahead, not -22");

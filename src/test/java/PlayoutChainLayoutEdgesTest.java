@@ -163,6 +163,15 @@ public final class PlayoutChainLayoutEdgesTest extends ChainChecks {
             is(fates(), "aa");
             is(onAir(), "0@0+100 0@100+100 -1@200+3400");
         }
+        for (char mode : FIXED) {
+            sentence("promise 14: a gap of one second is filled, for " + mode);
+            programme(100);
+            piece(1, -20);
+            append(0, mode, 1);
+            append(0, mode, 102);
+            is(fates(), "aa");
+            is(onAir(), "1@0+1 0@1+100 1@101+1 0@102+100 -1@202+3398");
+        }
         sentence("promise 14: a fixed start one second ahead of t, for c");
         programme(100);
         append(0, 'f', 0);
@@ -255,6 +264,15 @@ public final class PlayoutChainLayoutEdgesTest extends ChainChecks {
         append(0, 'p', 40);
         append(0, 'c', 20);
         is(onAir(), "-1@0+20 0@20+100 -1@120+3480");
+        sentence("promise 13: t is the end of the event that cuts");
+        programme(100);
+        append(0, 'f', 0);
+        append(0, 'f', 0);
+        append(0, 'c', 50);
+        append(0, 'f', 0);
+        append(0, 'p', 251);
+        is(fates(), "cxaaa");
+        is(onAir(), "0@0+50 0@50+100 0@150+100 -1@250+1 0@251+100 -1@351+3249");
         sentence("promise 13: an event that cuts is cut itself");
         programme(100);
         append(0, 'f', 0);

@@ -44,6 +44,17 @@ public final class PlayoutChainListEdgesTest extends ChainChecks {
         is(x.programme(0), 0);
         is(x.programme(1), 2);
         is(x.programme(2), 1);
+        sentence("promise 6: the events behind the position keep what is theirs");
+        threeEvents();
+        x.setOverrun(0, 7);
+        x.attach(1, 's', 5, 1);
+        x.insert(0, 0, 'f', 0);
+        x.insert(2, 0, 'f', 0);
+        is(x.secondaryStart(3, 0), 312);
+        refuses(INDEX, () -> x.secondaryStart(1, 0));
+        is(x.setOverrun(0, 0), 0);
+        is(x.setOverrun(1, 0), 7);
+        is(x.setOverrun(2, 0), 0);
         sentence("promise 6: at most 12 events");
         programme(10);
         for (int i = 1; i <= 12; i++) {
@@ -193,6 +204,15 @@ public final class PlayoutChainListEdgesTest extends ChainChecks {
         is(x.secondaryStart(1, 0), 103);
         refuses(INDEX, () -> x.secondaryStart(0, 1));
         refuses(INDEX, () -> x.secondaryStart(1, 1));
+        sentence("promise 7: its overrun goes with it, and no other one");
+        threeEvents();
+        x.setOverrun(0, 5);
+        x.setOverrun(1, 6);
+        x.setOverrun(2, 7);
+        x.remove(1);
+        is(onAir(), "0@0+105 2@105+307 -1@412+3188");
+        is(x.setOverrun(0, 0), 5);
+        is(x.setOverrun(1, 0), 7);
         sentence("promise 7: an event that comes to its position has neither its overrun nor its secondary events");
         programme(10);
         append(0, 'f', 0);

@@ -20,6 +20,13 @@ abstract class ChainChecks {
     private static int passed = 0;
     private static int failed = 0;
 
+    static {
+        Thread.setDefaultUncaughtExceptionHandler((thread, thrown) -> {
+            System.out.println(sentence + ": threw what no test asks for");
+            thrown.printStackTrace();
+        });
+    }
+
     /** A new object, for a sentence of the document; what fails from here on is told with the sentence. */
     static void sentence(String text) {
         sentence = text;
